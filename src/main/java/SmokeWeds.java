@@ -714,18 +714,18 @@ public final class SmokeWeds {
             return met[a] == 1 << b && met[b] == 1 << a && pairsIn(met) == 1;
         }
 
-        /** Of the houses that are open, all being lit now, those to light for a feast. */
+        /**
+         * Of the houses that are open, all being lit now, those to light for a feast. The first of equal ones is the
+         * least as bits, and has the fewest houses too: without one that is in no pair it would have come earlier.
+         */
         int bestGuests(int open) {
             int best = 0;
             int most = 0;
             for (int guests = 1; guests < 1 << MOST_HOUSES; guests++) {
-                if ((guests & ~open) == 0) {
-                    int pairs = pairsIfNoneTwice(guests);
-                    boolean fewer = pairs == most && Integer.bitCount(guests) < Integer.bitCount(best);
-                    if (pairs > most || fewer) {
-                        best = guests;
-                        most = pairs;
-                    }
+                int pairs = (guests & ~open) == 0 ? pairsIfNoneTwice(guests) : NONE;
+                if (pairs > most) {
+                    best = guests;
+                    most = pairs;
                 }
             }
             return best;
