@@ -350,6 +350,14 @@ public final class BoundaryTest {
         due("a fault", x.street(), 4 + 16 * 8);
         due("empty behind a fault, too", x.count(8), 0);
         due("nothing of it stays", tell(x, "turns 3;"), 0);
+        due("a longer text", tell(x, "house abcd at 0 0 high 1 dry;cold 1234;"), 4 + 16 * 34);
+        due("a word ends with the text", tell(x, "cold 1; cold"), 3 + 16 * 8);
+        due("a longer text", tell(x, "cold 1; coldcold"), 1 + 16 * 8);
+        due("a word ends with the text", tell(x, "cold 1; turns"), 1 + 16 * 13);
+        due("a longer text", tell(x, "wind 12345"), 1 + 16 * 5);
+        due("a number ends with the text", tell(x, "wind 1234"), 1 + 16 * 9);
+        due("a full tape that ends with a word", tell(x, repeated(" ", 996) + "cold"), 1 + 16 * 1000);
+        due("a full tape that ends with a number", tell(x, repeated(" ", 994) + "cold 7"), 1 + 16 * 1000);
     }
 
     private static void blanksStandWhereOneLikes() {
@@ -376,6 +384,7 @@ public final class BoundaryTest {
     private static void aWordHasEightLettersAtMost() {
         taken("house abcdefgh at 0 0 high 1 dry;");
         taken("house zzzzzzzz at 0 0 high 1 dry;house zzzzzzzy at 0 1 high 1 dry;house yzzzzzzz at 0 2 high 1 dry;");
+        taken("house azzzzzzz at 0 0 high 1 dry;house czzzzzzz at 0 1 high 1 dry;house ezzzzzzz at 0 2 high 1 dry;");
         faultAt("house abcdefghi at 0 0 high 1 dry;", 1, "abcdefghi");
         faultAt("house a at 0 0 high 1 abcdefghi;", 1, "abcdefghi");
         faultAt("abcdefghi", 1, "abcdefghi");
@@ -743,6 +752,29 @@ public final class BoundaryTest {
         due("plume", x.plume(0), 7);
     }
 
+    private static void whatIsNotToldIsAsWithoutInEachStreet() {
+        SmokeWeds x = new SmokeWeds();
+        for (int time = 0; time < 4; time++) {
+            due("all told", tell(x, "field 12 12;wind 1;plume 1;cold 9;turns 10;" + A_AND_B), 0);
+            due("wind", x.wind(0), 1);
+            due("all told", tell(x, "field 11 12;wind 1;plume 1;cold 9;turns 10;" + A_AND_B), 0);
+            due("wind", x.wind(0), 1);
+            for (int bare = 0; bare <= time; bare++) {
+                due("nothing told", tell(x, "house a at 2 2 high 3 dry;house b at 4 2 high 1 dry;"), 0);
+                due("columns", x.count(0), 8);
+                due("rows", x.count(1), 8);
+                due("wind", x.wind(0), 0);
+                due("plume", x.plume(0), 3);
+                x.light(0, true);
+                x.light(1, true);
+                due("no turns: no wind but the north", x.days(time, 20, 72, 0), 0);
+                x.light(1, false);
+                x.hours(1);
+                due("cold", x.house(1, 7), 1);
+            }
+        }
+    }
+
     // ---- faults -------------------------------------------------------------------------------------------------
 
     private static void theFirstWrongTokenFromTheLeft() {
@@ -1061,6 +1093,63 @@ public final class BoundaryTest {
         due("cold 0", y.house(0, 7), 0);
     }
 
+    private static void byHandAHouseIsLitOrShut() {
+        SmokeWeds x = told("wind 2;" + A_AND_B, 0);
+        for (int house = 0; house < 2; house++) {
+            due("out already", x.light(house, false), false);
+            due("lit", x.light(house, true), true);
+            due("lit already", x.light(house, true), false);
+            due("it is lit", x.house(house, 4), 1);
+            due("open already", x.shut(house, false), false);
+            due("shut", x.shut(house, true), true);
+            due("shut already", x.shut(house, true), false);
+            due("it is shut", x.house(house, 5), 1);
+            due("it is lit all the same", x.house(house, 4), 1);
+            due("opened", x.shut(house, false), true);
+            due("it is not shut", x.house(house, 5), 0);
+        }
+        due("they meet", x.meets(0), 2);
+        due("put out", x.light(0, false), true);
+        due("it is out", x.house(0, 4), 0);
+        due("one that is out meets nobody", x.meets(0), 0);
+        due("nobody meets it", x.meets(1), 0);
+        due("shut while out", x.shut(0, true), true);
+        due("lit while shut", x.light(0, true), true);
+        due("one that is shut meets nobody", x.meets(0), 0);
+        due("nobody meets it", x.meets(1), 0);
+        due("opened", x.shut(0, false), true);
+        due("they meet", x.meets(1), 1);
+        for (int none : new int[] {-1, 2, 32, MIN, MAX}) {
+            due("no house", x.light(none, true) || x.light(none, false), false);
+            due("no house", x.shut(none, true) || x.shut(none, false), false);
+        }
+        SmokeWeds y = told(eightHouses(), 0);
+        for (int house = 0; house < 8; house++) {
+            due("lit " + house, y.light(house, true), true);
+            due("shut " + house, y.shut(house, true), true);
+            due("no other is lit", y.house((house + 1) % 8, 4), house == 7 ? 1 : 0);
+            due("no other is shut", y.house((house + 1) % 8, 5), house == 7 ? 1 : 0);
+        }
+    }
+
+    private static void eachPairHasItsOwnHoursAndChildren() {
+        // All lie on one cell; each house is lit three hours behind the one ahead of it.
+        SmokeWeds x = told("wind 2;plume 8;" + eightHouses(), 3);
+        for (int house = 2; house < 8; house++) {
+            x.hours(3);
+            x.light(house, true);
+        }
+        x.hours(3);
+        for (int a = 0; a < 8; a++) {
+            for (int b = 0; b < 8; b++) {
+                int hours = 3 * (8 - Math.max(1, Math.max(a, b)));
+                due("hours of " + a + " and " + b, x.pair(a, b, 0), a == b ? NONE : hours);
+                due("children of " + a + " and " + b, x.pair(a, b, 1), a == b ? NONE : hours / 3);
+            }
+        }
+        due("all children", x.count(5), 7 + 2 * 6 + 3 * 5 + 4 * 4 + 5 * 3 + 6 * 2 + 7);
+    }
+
     private static void hoursAre1To1000() {
         SmokeWeds x = told("cold 99;house a at 0 0 high 1 dry;", 0);
         due("0", x.hours(0), NONE);
@@ -1182,6 +1271,32 @@ public final class BoundaryTest {
         due("the least as bits, of equally many", z.feast(0, 1), 3);
         z.shut(1, true);
         due("b is shut", z.feast(0, 1), 12);
+    }
+
+    private static void plumesAreByTheHourThatIsAskedOf() {
+        SmokeWeds x = told("wind 2;plume 3*(hour=20 and day=1);" + A_AND_B, 2);
+        x.hours(30);
+        due("only", x.only(0, 1), 14);
+        due("feast ahead", x.feast(13, 0), 0);
+        due("feast", x.feast(14, 0), 1);
+        due("feast behind", x.feast(15, 0), 0);
+        due("free by the hour ahead: 1 is cheaper than 2", x.free(0, 14), 14);
+        x.light(0, true);
+        due("days", x.days(0, 20, 14, 0), 0);
+        due("days", x.days(0, 20, 15, 0), 20);
+        SmokeWeds y = told("cold 9;wind 2;plume 3*(hour=20 and day=1);" + A_AND_B, 2);
+        y.hours(30);
+        due("free ahead of that hour", y.free(0, 14), 28);
+        due("free behind that hour", y.free(0, 15), 28 + 9);
+        due("free behind that hour", y.free(0, 24), 46 + 9);
+        due("not yet", y.meets(1), 0);
+        y.light(0, true);
+        y.hours(14);
+        due("in that hour", y.meets(1), 1);
+        y.sight(0, 1, true);
+        due("east, or west, fits by the hour that comes", y.fits(), 4 | 64);
+        y.hours(1);
+        due("behind it", y.fits(), 0);
     }
 
     private static void freeIsBy1To24Hours() {
@@ -1421,6 +1536,16 @@ public final class BoundaryTest {
         y.mark(1, false);
         y.mark(3, false);
         due("all as it was", everything(x).equals(everything(y)), true);
+        SmokeWeds v = told("wind 2;" + A_AND_B + "house c at 7 7 high 1 dry;house d at 6 7 high 2 dry;", 15);
+        v.sight(2, 3, true);
+        v.sight(0, 1, true);
+        v.mark(2, false);
+        v.clear();
+        v.sight(0, 2, false);
+        v.sight(1, 3, false);
+        due("by all winds", v.fits(), 255);
+        v.mark(2, true);
+        due("who was seen with whom is held", v.fits(), 4);
         SmokeWeds z = told("wind 2*(hour<3);" + A_AND_B, 3);
         z.hours(2);
         z.mark(0, false);
@@ -1529,6 +1654,7 @@ public final class BoundaryTest {
         run("hour 0 to 23, day by 24, cut", BoundaryTest::hourIs0To23AndDayByCut);
         run("in plume also high, way", BoundaryTest::highAndWayAreFactsOfPlumeAlone);
         run("without wind 0, without plume high", BoundaryTest::withoutWind0AndWithoutPlumeHigh);
+        run("what is not told", BoundaryTest::whatIsNotToldIsAsWithoutInEachStreet);
         run("the first wrong token from the left", BoundaryTest::theFirstWrongTokenFromTheLeft);
         run("of one token the least", BoundaryTest::ofOneTokenTheLeast);
         run("the end at the text's length", BoundaryTest::theEndIsATokenAtTheTextsLength);
@@ -1549,6 +1675,8 @@ public final class BoundaryTest {
         run("those who are, stay so", BoundaryTest::thoseWhoAreWedStaySo);
         run("a child at each third", BoundaryTest::aChildAtEachThirdHour);
         run("who pays what", BoundaryTest::whoBurnsPaysByKindOthersCold);
+        run("by hand", BoundaryTest::byHandAHouseIsLitOrShut);
+        run("each pair", BoundaryTest::eachPairHasItsOwnHoursAndChildren);
         run("hours 1 to 1,000", BoundaryTest::hoursAre1To1000);
     }
 
@@ -1557,6 +1685,7 @@ public final class BoundaryTest {
         run("only: 24 hours", BoundaryTest::onlyLooksAt24Hours);
         run("feast behind 0 to 23", BoundaryTest::feastIsBehind0To23Hours);
         run("of equal feasts", BoundaryTest::ofEqualFeastsTheFewestThenTheLeast);
+        run("plumes by the hour asked of", BoundaryTest::plumesAreByTheHourThatIsAskedOf);
         run("free by 1 to 24", BoundaryTest::freeIsBy1To24Hours);
         run("sights, 10 at most", BoundaryTest::sightsAreTenAtMost);
         run("winds that fit", BoundaryTest::windsThatFitAre0To7);
