@@ -30,8 +30,8 @@ public final class SmokeWeds {
     // Above all that a house can pay in the hours of one day.
     private static final int UNPAYABLE = 1000000;
 
-    private final Tape tape = new Tape();
-    private final Reader reader = new Reader(tape);
+    private final Reader reader = new Reader();
+    private final Tape tape = reader.tape;
     private final Smoke air = new Smoke();
     private final Life life = new Life();
     private final Mark[] marks = new Mark[MOST_MARKS];
@@ -878,7 +878,7 @@ public final class SmokeWeds {
         static final int NOT_AS_TOLD = 4;
         static final int TOO_MANY = 5;
 
-        final Tape tape;
+        final Tape tape = new Tape();
         // A draft: where no fault is, it is taken and the street of till then comes in its place.
         Street street = new Street();
         Law law = street.windLaw;
@@ -894,10 +894,6 @@ public final class SmokeWeds {
         boolean plumeTold;
         boolean coldTold;
         boolean turnsTold;
-
-        Reader(Tape tape) {
-            this.tape = tape;
-        }
 
         int read() {
             street.begin();

@@ -736,6 +736,17 @@ public final class PromiseTest {
         }
         due("10 are there", x.sight(0, 1, true), -1);
         due("10 are there", x.count(7), 10);
+        SmokeWeds y = told(ROW, 3);
+        y.sight(0, 1, true);
+        y.light(2, true);
+        due("it stays where a house is lit", y.count(7), 1);
+        y.shut(2, true);
+        due("it stays where a house is shut", y.count(7), 1);
+        y.hours(30);
+        due("it stays where hours pass", y.count(7), 1);
+        due("and is looked at by the hour that comes", y.fits(), 4);
+        due("all that is asked leaves it", y.only(0, 1) + y.feast(0, 0) + y.days(0, 1, 1, 1), 1);
+        due("all that is asked leaves it", y.fits(), 4);
     }
 
     private static void clearPromise() {
@@ -833,6 +844,7 @@ public final class PromiseTest {
         due("a to b and d, b to a, c, d, d to a and b", z.days(0, 1, 1, 1), 3);
         due("pairs ab, ad, bd, bc", z.days(0, 3, 9, 0), 12);
         drawnDays();
+        wedToTwoInDays();
         for (int bad : new int[] {-1, MIN, MAX}) {
             due("no such seed", z.days(bad, 1, 1, 0), -1);
             due("no such runs", z.days(0, bad, 1, 0), -1);
@@ -846,6 +858,21 @@ public final class PromiseTest {
         due("no such hours", z.days(0, 1, 73, 0), -1);
         due("no such hours", z.days(0, 1, 0, 0), -1);
         due("no such what", z.days(0, 1, 1, 2), -1);
+    }
+
+    private static void wedToTwoInDays() {
+        String three = "house a at 0 2 high 3 dry;house b at 2 2 high 3 dry;house c at 4 2 high 1 dry;";
+        SmokeWeds x = told("wind 2;" + three, 3);
+        x.hours(1);
+        x.light(0, false);
+        x.light(2, true);
+        due("b meets c alone and is wed to a, too", x.days(0, 1, 1, 1), 1);
+        due("c is the one wedding", x.days(0, 1, 1, 0), 1);
+        SmokeWeds y = told("wind 2*(hour=0);" + three, 7);
+        y.hours(1);
+        due("b is wed to two", y.house(1, 6), 5);
+        due("in no hour from now on till the next day", y.days(0, 20, 23, 1), 0);
+        due("in that day's first", y.days(0, 20, 24, 1), 1);
     }
 
     /** Two houses that meet by the east wind alone, where each hour's wind is drawn in so many of ten. */
@@ -942,6 +969,9 @@ public final class PromiseTest {
         feed(y, "cold 5;");
         due("the tape is not in a mark", y.mark(2, true), true);
         due("the tape is not in a mark", y.count(8), 7);
+        due("nor taken by one", y.mark(1, false), true);
+        due("nor taken by one", y.count(8), 7);
+        due("nor taken by one", y.street(), 0);
     }
 
     private static void countPromise() {
