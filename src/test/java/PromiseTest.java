@@ -440,6 +440,9 @@ public final class PromiseTest {
         due("way", lengthOf("way", "high 9 dry", 0), 3);
         due("hour", lengthOf("hour", "high 9 dry", 17), 17);
         due("day", lengthOf("day", "high 9 dry", 72), 3);
+        SmokeWeds y = told("wind hour;plume way;house a at 0 0 high 9 dry;", 0);
+        y.hours(3);
+        due("the way of the hour that comes", y.plume(0), 3);
         SmokeWeds x = told("house a at 1 1 high 6 dry;house b at 2 2 high 5 wet;", 0);
         due("none told", x.plume(0), 6);
         due("none told, wet", x.plume(1), 2);
@@ -506,6 +509,11 @@ public final class PromiseTest {
         x.light(1, true);
         x.shut(1, true);
         due("shut", x.meets(1), 0);
+        x.shut(1, false);
+        x.hours(1);
+        x.light(2, false);
+        due("put out", x.meets(1), 1);
+        due("wed all the same", x.house(1, 6), 5);
         for (int house : new int[] {-1, 3, 8, MIN, MAX}) {
             due("no house", x.meets(house), -1);
         }
@@ -714,6 +722,10 @@ public final class PromiseTest {
         for (int house : new int[] {-1, 2, 8, MIN, MAX}) {
             due("no house", x.free(house, 1), -1);
         }
+        x.shut(0, false);
+        x.hours(20);
+        due("wed to the day's last hour", x.house(0, 6), 2);
+        due("the very first hour turns", x.free(0, 1), 2);
         SmokeWeds y = told("cold 0;wind 2;house a at 0 2 high 3 peat;house b at 2 2 high 1 dry;", 2);
         due("cold that costs nothing", y.free(0, 24), 0);
         SmokeWeds z = told("cold 9;wind 2*(hour<2)+4*(1<hour);house a at 0 2 high 3 peat;house b at 3 2 high 1 dry;", 2);
